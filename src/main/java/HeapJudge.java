@@ -908,21 +908,24 @@ public final class HeapJudge {
         /** The first STEP of MATCH and on that can be done; and by which PARTS. */
         int findStep() {
             for (int wanted = MATCH; wanted <= UNFOLD; wanted++) {
-                for (rightAt = 0; rightAt < right.size; rightAt++) {
-                    for (leftAt = 0; leftAt < left.size; leftAt++) {
-                        if (isFit(wanted, rightAt, leftAt)) {
+                for (int r = 0; r < right.size; r++) {
+                    for (int l = 0; l < left.size; l++) {
+                        if (isFit(wanted, r, l)) {
+                            rightAt = r;
+                            leftAt = l;
                             return wanted;
                         }
                     }
                 }
             }
             leftAt = NONE;
-            for (rightAt = 0; rightAt < right.size; rightAt++) {
-                if (right.tell(rightAt, KIND) >= LIST) {
+            rightAt = NONE;
+            for (int r = 0; r < right.size; r++) {
+                if (right.tell(r, KIND) >= LIST) {
+                    rightAt = r;
                     return EMPTY;
                 }
             }
-            rightAt = NONE;
             return STUCK;
         }
 
