@@ -496,6 +496,9 @@ public final class PromiseTest {
         HeapJudge parts = of(partsBeyond());
         due("eleven parts", () -> parts.sequent(6, 2), 11);
         due("fresh ones so far", () -> parts.proof(3), 11);
+        String twelve = "tree(a)*tree(b)*tree(c)*tree(d)*a!=0*b!=0*c!=0*d!=0|-ls(a,b)*ls(b,c)*ls(c,d)*ls(d,a)";
+        dueSteps(twelve, "7070707088889", 0);
+        due("twelve parts are not too many", () -> of(twelve).sequent(8, 2), 12);
         due("left over has a limit of 40 in a row", () -> of("ls(a,b)*ls(b,0)|-ls(a,0)").over(), -3);
     }
 
