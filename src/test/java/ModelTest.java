@@ -26,6 +26,9 @@ public final class ModelTest {
         for (int run = 0; run < RUNS && wrong < 20; run++) {
             oneRun(run, random);
         }
+        for (int i = 0; i < Texts.EDGES.length && wrong < 20; i++) {
+            oneEdge(RUNS + i, Texts.EDGES[i]);
+        }
         System.out.println("proofs stuck, proved, too much: " + Arrays.toString(seenOutcomes)
                 + ", left over: " + Arrays.toString(seenOvers)
                 + ", steps: " + Arrays.toString(seenSteps));
@@ -95,6 +98,24 @@ public final class ModelTest {
                 same(run, "undo", judge::undo, model::undo);
             }
             askAll(run + "." + i + " " + model.tell(), run, judge, model);
+        }
+    }
+
+    /** A text near a limit, as it is, turned, and without one PART or the other. */
+    static void oneEdge(int run, String text) {
+        HeapJudge judge = new HeapJudge();
+        Model model = new Model();
+        feedAll(run, judge, model, text, new Random(run));
+        same(run, "text of \"" + text + "\"", () -> judge.text(text.length()), () -> model.text(text.length()));
+        askAll(run + " " + model.tell(), run, judge, model);
+        same(run, "turn", judge::turn, model::turn);
+        askAll(run + " " + model.tell(), run, judge, model);
+        same(run, "undo", judge::undo, model::undo);
+        for (int k = 0; k < 5; k++) {
+            int part = k;
+            same(run, "drop", () -> judge.drop(part % 2, part), () -> model.drop(part % 2, part));
+            askAll(run + " " + model.tell(), run, judge, model);
+            same(run, "undo", judge::undo, model::undo);
         }
     }
 
@@ -194,6 +215,27 @@ public final class ModelTest {
 
 /** Random texts: mostly right ones, of which some are then spoiled. */
 final class Texts {
+    /** Texts near a limit, mostly found by search: 300 SEQUENTS, long rows, 12 PARTS or CLAIMS, many fresh ones. */
+    static final String[] EDGES = {
+        "ls(b,e)*ls(c,e)*ls(b,0)*ls(e,0)*ls(a,c)*e!=b|-ls(d,b)*ls(a,d)*tree(b)*e!=e*d=a",
+        "ls(b,a)*ls(a,0)*ls(a,0)*ls(e,b)*ls(c,b)*a!=0|-ls(c,d)*ls(e,d)*ls(d,e)*ls(a,e)*tree(d)*c=b*0!=b*d!=e",
+        "tree(d)*ls(e,c)*ls(a,c)*ls(c,a)*ls(d,b)*b!=c*c!=d*b!=d"
+                + "|-ls(e,b)*ls(b,e)*ls(e,b)*tree(c)*d->c*c!=0*c!=b*d!=0*d!=a*d!=d*c!=e",
+        "ls(a,0)*ls(e,c)*ls(c,d)*tree(c)*ls(b,a)*0!=a*d!=c*a!=e|-ls(b,d)*ls(d,b)*ls(b,d)*ls(a,d)*ls(e,0)*a!=e*c!=0",
+        "ls(b,d)*ls(d,c)*tree(e)*ls(e,0)*ls(c,0)*0!=b*d!=0*e!=0*0!=b|-ls(b,a)*a->d*ls(c,b)*ls(d,a)*ls(e,b)*a!=a",
+        "ls(d,c)*ls(e,a)*ls(c,b)*tree(d)*ls(a,e)*0!=e*c!=d|-ls(e,b)*ls(b,a)*ls(c,e)*ls(a,d)*d->d,e*c=b*c=c*c=e*a!=b",
+        "ls(c,0)*ls(a,c)*ls(d,0)*ls(d,e)*ls(b,a)*e!=d*0!=e*d!=e*a!=e*a!=b*a!=c|-ls(c,e)*ls(b,d)*ls(e,b)*ls(b,c)*ls(d,a)",
+        "ls(c,a)*ls(a,c)*ls(b,d)*ls(d,e)*ls(d,e)*a!=c*b!=0*e!=d*d!=b"
+                + "|-ls(c,b)*ls(b,c)*ls(b,a)*ls(a,e)*ls(d,0)*0=a*d!=0*a=a*0!=e*b!=0",
+        "tree(a)*b->e*ls(e,b)*ls(a,c)*d!=a*a!=c|-ls(e,d)*ls(a,0)*c->0*ls(d,c)*0->0,e",
+        "ls(c,c)*ls(a,c)*ls(e,b)*tree(b)*tree(a)*a!=e*a!=c|-ls(e,d)*ls(a,b)*ls(d,c)*c->0*a!=e",
+        "tree(d)*tree(a)*tree(b)*ls(a,b)*tree(c)*d!=e*a!=b*a!=e|-b->e,a*0->b*d->b,a*c->d,e*a->b,0*b!=a*b=d*b!=e*0=0",
+        "tree(e)*tree(d)*tree(c)*tree(b)*tree(a)*e!=0*d!=0*0!=a*a!=d*0!=c*b!=0"
+                + "|-e->a,a*ls(b,a)*c->a,d*a->d,e*ls(d,b)*a!=d*0=c",
+        "c->b,b*e->d,b*a->c,d*d->c,d*b->c,a*0!=e*d!=e*d!=a*c!=e*c!=a*e!=b|-ls(a,d)*ls(d,0)*tree(e)*ls(a,d)*ls(c,0)*d!=e",
+        "ls(d,c)*ls(a,0)*ls(b,c)*e->c,d*ls(c,b)*d!=c*b!=c*0!=a"
+                + "|-tree(b)*tree(e)*ls(d,a)*ls(b,a)*ls(a,b)*e!=d*c=a*c=a*a!=a*e!=b*a!=a"};
+
     static String any(Random random) {
         int kind = random.nextInt(16);
         return kind == 0 ? crowded(random) : kind < 5 ? loose(random) : chained(random, kind < 9);

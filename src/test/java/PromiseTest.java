@@ -1,16 +1,5 @@
-import java.util.NoSuchElementException;
-
 /** Each promise of the document by examples whose answers were worked out by hand from its words. */
-public final class PromiseTest {
-    private static final int NONE = HeapJudge.NONE;
-    private static final String MISSING = "NoSuchElementException";
-    private static final String ILLEGAL = "IllegalArgumentException";
-    private static int wrong = 0;
-
-    interface Call {
-        long of();
-    }
-
+public final class PromiseTest extends Due {
     public static void main(String[] args) {
         newObject();
         feed();
@@ -42,74 +31,7 @@ public final class PromiseTest {
         place();
         print();
         status();
-        if (wrong != 0) {
-            System.out.println(wrong + " answers are not as due");
-            System.exit(1);
-        }
-        System.out.println("all answers are as due");
-    }
-
-    static String answer(Call call) {
-        try {
-            return "" + call.of();
-        } catch (NoSuchElementException e) {
-            return MISSING;
-        } catch (IllegalArgumentException e) {
-            return ILLEGAL;
-        }
-    }
-
-    static void due(String what, Call call, Object want) {
-        String got = answer(call);
-        if (!got.equals("" + want)) {
-            wrong++;
-            System.out.println(what + " answered " + got + ", due is " + want);
-        }
-    }
-
-    /** Feeds as many twenties of bytes as the text needs, with z behind it. */
-    static void put(HeapJudge judge, String text) {
-        for (int start = 0; start < text.length(); start += 20) {
-            int[] numbers = new int[5];
-            for (int i = 0; i < 20; i++) {
-                int sign = start + i < text.length() ? text.charAt(start + i) : 'z';
-                numbers[i / 4] = numbers[i / 4] << 8 | sign;
-            }
-            judge.feed(numbers[0], numbers[1], numbers[2], numbers[3], numbers[4]);
-        }
-    }
-
-    static int tell(HeapJudge judge, String text) {
-        put(judge, text);
-        return judge.text(text.length());
-    }
-
-    static HeapJudge of(String text) {
-        HeapJudge judge = new HeapJudge();
-        int parts = tell(judge, text);
-        if (parts < 0) {
-            wrong++;
-            System.out.println("the text " + text + " has a fault at " + judge.fault());
-        }
-        return judge;
-    }
-
-    static String steps(HeapJudge judge) {
-        StringBuilder all = new StringBuilder();
-        for (int k = 0; k < judge.proof(1); k++) {
-            all.append(judge.sequent(k, 0));
-        }
-        return all.toString();
-    }
-
-    static void dueSteps(String text, String want, int outcome) {
-        HeapJudge judge = of(text);
-        String got = steps(judge);
-        if (!got.equals(want)) {
-            wrong++;
-            System.out.println("steps of " + text + " are " + got + ", due is " + want);
-        }
-        due("outcome of " + text, () -> judge.proof(0), outcome);
+        end();
     }
 
     static void newObject() {
@@ -144,91 +66,83 @@ public final class PromiseTest {
         due("a negative number's bytes, fault", judge::fault, 8);
     }
 
-    static void dueText(String text, int answer, int place) {
-        HeapJudge judge = new HeapJudge();
-        due("text \"" + text + "\"", () -> tell(judge, text), answer);
-        due("fault of \"" + text + "\"", judge::fault, place);
-        due("tape after \"" + text + "\"", () -> judge.told(5), 0);
-        due("acts after \"" + text + "\"", () -> judge.told(6), answer < 0 ? 0 : 1);
-    }
-
     static void textThatIsRight() {
-        dueText("emp|-emp", 0, NONE);
-        dueText("  emp  |-  emp  ", 0, NONE);
-        dueText("a->b|-a->b,c", 2, NONE);
-        dueText(" a -> 0 , e * ls ( a , b ) * tree ( 0 ) |- a = b * b != 0 ", 3, NONE);
-        dueText("0->0*0=0*0!=0|-emp", 1, NONE);
-        dueText("a->b*a->b*a->b*a->b*a->b*a=b*a=b*a=b*a!=b*a!=b*a!=b|-a->b*a->b*a->b*a->b*a->b*a=b", 10, NONE);
+        dueRead("emp|-emp", 0, NONE);
+        dueRead("  emp  |-  emp  ", 0, NONE);
+        dueRead("a->b|-a->b,c", 2, NONE);
+        dueRead(" a -> 0 , e * ls ( a , b ) * tree ( 0 ) |- a = b * b != 0 ", 3, NONE);
+        dueRead("0->0*0=0*0!=0|-emp", 1, NONE);
+        dueRead("a->b*a->b*a->b*a->b*a->b*a=b*a=b*a=b*a!=b*a!=b*a!=b|-a->b*a->b*a->b*a->b*a->b*a=b", 10, NONE);
         String blanks = " ".repeat(192);
-        dueText("emp|-emp" + blanks, 0, NONE);
-        dueText(blanks + "emp|-emp", 0, NONE);
+        dueRead("emp|-emp" + blanks, 0, NONE);
+        dueRead(blanks + "emp|-emp", 0, NONE);
     }
 
     static void textWithFaults() {
-        dueText("", -9, 0);
-        dueText("   ", -9, 3);
-        dueText("emp", -9, 3);
-        dueText("emp |", -9, 4);
-        dueText("emp| -emp", -9, 3);
-        dueText("emp - emp", -9, 4);
-        dueText("emp |-  ", -9, 8);
-        dueText("|-emp", -9, 0);
-        dueText("a", -9, 1);
-        dueText("a  ", -9, 3);
-        dueText("a-", -9, 1);
-        dueText("a->", -9, 3);
-        dueText("a- >b|-emp", -9, 1);
-        dueText("a !b|-emp", -9, 2);
-        dueText("a! =b|-emp", -9, 1);
-        dueText("a>b|-emp", -9, 1);
-        dueText("a->b,|-emp", -9, 5);
-        dueText("a->b,c,d|-emp", -9, 6);
-        dueText("a->bc|-emp", -9, 3);
-        dueText("a->f|-emp", -9, 3);
-        dueText("a->B|-emp", -9, 3);
-        dueText("a->1|-emp", -9, 3);
-        dueText("a->b0|-emp", -9, 4);
-        dueText("a->0b|-emp", -9, 4);
-        dueText("ab=c|-emp", -9, 0);
-        dueText("a=b=c|-emp", -9, 3);
-        dueText("a=|-emp", -9, 2);
-        dueText("a!=ls|-emp", -9, 3);
-        dueText("ls a,b)|-emp", -9, 3);
-        dueText("ls(a b)|-emp", -9, 5);
-        dueText("ls(a,b|-emp", -9, 6);
-        dueText("ls(a,bb)|-emp", -9, 5);
-        dueText("ls->a|-emp", -9, 2);
-        dueText("lsx(a,b)|-emp", -9, 0);
-        dueText("l s(a,b)|-emp", -9, 0);
-        dueText("tree(a,b)|-emp", -9, 6);
-        dueText("tree(f)|-emp", -9, 5);
-        dueText("trees(a)|-emp", -9, 0);
-        dueText("empa|-emp", -9, 0);
-        dueText("em|-emp", -9, 0);
-        dueText("emp emp|-emp", -9, 4);
-        dueText("emp*a->b|-emp", -9, 3);
-        dueText("a->b*emp|-emp", -9, 5);
-        dueText("a->b**b->c|-emp", -9, 5);
-        dueText("a->b b->c|-emp", -9, 5);
-        dueText("emp|-emp|-emp", -9, 8);
-        dueText("emp|-a->b*", -9, 10);
-        dueText("emp|-*a->b", -9, 5);
-        dueText("emp|-emp ?", -9, 9);
-        dueText("emp\t|-emp", -9, 3);
+        dueRead("", -9, 0);
+        dueRead("   ", -9, 3);
+        dueRead("emp", -9, 3);
+        dueRead("emp |", -9, 4);
+        dueRead("emp| -emp", -9, 3);
+        dueRead("emp - emp", -9, 4);
+        dueRead("emp |-  ", -9, 8);
+        dueRead("|-emp", -9, 0);
+        dueRead("a", -9, 1);
+        dueRead("a  ", -9, 3);
+        dueRead("a-", -9, 1);
+        dueRead("a->", -9, 3);
+        dueRead("a- >b|-emp", -9, 1);
+        dueRead("a !b|-emp", -9, 2);
+        dueRead("a! =b|-emp", -9, 1);
+        dueRead("a>b|-emp", -9, 1);
+        dueRead("a->b,|-emp", -9, 5);
+        dueRead("a->b,c,d|-emp", -9, 6);
+        dueRead("a->bc|-emp", -9, 3);
+        dueRead("a->f|-emp", -9, 3);
+        dueRead("a->B|-emp", -9, 3);
+        dueRead("a->1|-emp", -9, 3);
+        dueRead("a->b0|-emp", -9, 4);
+        dueRead("a->0b|-emp", -9, 4);
+        dueRead("ab=c|-emp", -9, 0);
+        dueRead("a=b=c|-emp", -9, 3);
+        dueRead("a=|-emp", -9, 2);
+        dueRead("a!=ls|-emp", -9, 3);
+        dueRead("ls a,b)|-emp", -9, 3);
+        dueRead("ls(a b)|-emp", -9, 5);
+        dueRead("ls(a,b|-emp", -9, 6);
+        dueRead("ls(a,bb)|-emp", -9, 5);
+        dueRead("ls->a|-emp", -9, 2);
+        dueRead("lsx(a,b)|-emp", -9, 0);
+        dueRead("l s(a,b)|-emp", -9, 0);
+        dueRead("tree(a,b)|-emp", -9, 6);
+        dueRead("tree(f)|-emp", -9, 5);
+        dueRead("trees(a)|-emp", -9, 0);
+        dueRead("empa|-emp", -9, 0);
+        dueRead("em|-emp", -9, 0);
+        dueRead("emp emp|-emp", -9, 4);
+        dueRead("emp*a->b|-emp", -9, 3);
+        dueRead("a->b*emp|-emp", -9, 5);
+        dueRead("a->b**b->c|-emp", -9, 5);
+        dueRead("a->b b->c|-emp", -9, 5);
+        dueRead("emp|-emp|-emp", -9, 8);
+        dueRead("emp|-a->b*", -9, 10);
+        dueRead("emp|-*a->b", -9, 5);
+        dueRead("emp|-emp ?", -9, 9);
+        dueRead("emp\t|-emp", -9, 3);
         String five = "a->b*b->c*c->d*d->e*e->a";
-        dueText(five + "*a->0|-emp", -8, 25);
-        dueText(five + " *  a->0|-emp", -8, 28);
-        dueText(five + "*a->f|-emp", -9, 28);
-        dueText(five + "*a->0,|-emp", -9, 30);
-        dueText(five + "*a->0,b ?", -8, 25);
-        dueText(five + "*tree(a", -9, 31);
-        dueText(five + "*a=b*ls(a,b)*a=b|-emp", -8, 29);
-        dueText("emp|-" + five + "*tree(0)", -8, 30);
+        dueRead(five + "*a->0|-emp", -8, 25);
+        dueRead(five + " *  a->0|-emp", -8, 28);
+        dueRead(five + "*a->f|-emp", -9, 28);
+        dueRead(five + "*a->0,|-emp", -9, 30);
+        dueRead(five + "*a->0,b ?", -8, 25);
+        dueRead(five + "*tree(a", -9, 31);
+        dueRead(five + "*a=b*ls(a,b)*a=b|-emp", -8, 29);
+        dueRead("emp|-" + five + "*tree(0)", -8, 30);
         String six = "a=b*a!=b*0=a*c=d*d=e*e!=a";
-        dueText(six + "*a=b|-emp", -8, 26);
-        dueText(six + "*a=", -9, 28);
-        dueText(six + "*a->b*a!=b?", -8, 31);
-        dueText("emp|-" + six + "*0=0", -8, 31);
+        dueRead(six + "*a=b|-emp", -8, 26);
+        dueRead(six + "*a=", -9, 28);
+        dueRead(six + "*a->b*a!=b?", -8, 31);
+        dueRead("emp|-" + six + "*0=0", -8, 31);
     }
 
     static void textRefused() {
