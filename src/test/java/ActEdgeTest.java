@@ -29,6 +29,7 @@ public final class ActEdgeTest extends Due {
         status();
         statusOfEach();
         askedNothingChanges();
+        oneAfterTheOther();
         calls512();
         end();
     }
@@ -520,6 +521,28 @@ public final class ActEdgeTest extends Due {
             dueText("in another order, of " + text, print + answer(other::over) + answer(() -> other.heaps(1)),
                     answer(judge::print) + answer(judge::over) + answer(() -> judge.heaps(1)));
         }
+    }
+
+    /** What one text answers does not hang on the texts ahead of it. */
+    static void oneAfterTheOther() {
+        says("tell both SIDES");
+        String[] texts = {"tree(a)|-tree(a)", "ls(a,b)*ls(b,c)*ls(c,d)*ls(d,e)*ls(e,0)|-ls(a,0)", "emp|-emp",
+            "a->b,c*b->d,e*tree(c)*tree(d)*tree(e)|-tree(a)", "tree(e)|-tree(0)", "ls(a,b)*b->0|-ls(a,0)",
+            "a->b|-a->c", "c->0,e*ls(d,c)*ls(e,d)*tree(d)|-ls(e,0)", "a!=a|-b->c", "tree(b)*tree(c)|-emp",
+            "tree(e)|-tree(e)", "a->b,0*b->0,0|-tree(a)", "emp|-tree(a)*ls(b,c)", "a->b*c->d,e|-ls(a,b)"};
+        for (int first = 0; first < texts.length; first++) {
+            HeapJudge judge = new HeapJudge();
+            for (int i = 0; i < texts.length; i++) {
+                String text = texts[(first + i * 5) % texts.length];
+                tell(judge, text);
+                dueText("after others, " + text, someAnswers(judge), someAnswers(of(text)));
+            }
+        }
+    }
+
+    static String someAnswers(HeapJudge judge) {
+        return judge.print() + " " + judge.proof(3) + " " + judge.over() + " " + judge.heaps(0) + " " + judge.heaps(1)
+                + " " + judge.refused(0) + " " + judge.refused(2) + " " + judge.place(1) + " " + judge.place(5);
     }
 
     static void calls512() {

@@ -155,6 +155,9 @@ public final class HeapEdgeTest extends Due {
         dueHeaps(lists + unlike + "|-" + lists, 32, 32);
         dueHeaps(trees + "|-emp", 1024, 1);
         dueHeaps(lists + "|-emp", 243, 1);
+        dueHeaps("ls(a,b)*ls(b,c)*ls(c,d)*ls(d,e)*ls(e,0)|-ls(a,0)", 243, 243);
+        dueHeaps("a->b,c*b->d,e*tree(c)*tree(d)*tree(e)|-tree(a)", 64, 64);
+        dueHeaps("a->b,c*b->d,e*tree(c)*tree(d)*tree(e)*c!=0*d!=0*e!=0|-tree(a)", 27, 27);
         dueRefused(trees + unlike + "|-emp", 0, 0, 5, 1, 2, 3, 4, 5);
         dueRefused(trees + "|-emp", 1, 0, 1, 0, 0, 0, 0, 1);
     }

@@ -4,9 +4,10 @@ import java.lang.reflect.InvocationTargetException;
 import java.lang.reflect.Method;
 
 /**
- * Two limits that no text reaches in a way that an answer would show: a 41st SEQUENT in one row (a PROOF's rows stay
- * below 30, and LEFT OVER without an end answers TOO MUCH by the limit of 300 as well), and VARIABLE 21 (15 is the
- * greatest that a text can ask for). So this test alone looks inside of the class, by the names of its parts.
+ * Limits that no text reaches in a way that an answer would show: a 41st SEQUENT in one row (a PROOF's rows stay
+ * below 30, and LEFT OVER without an end answers TOO MUCH by the limit of 300 as well), a 13th PART to the right (ten
+ * are the most that can come there), and VARIABLE 21 (15 is the greatest that a text can ask for). So this test alone
+ * looks inside of the class, by the names of its parts.
  */
 public final class InsideTest extends Due {
     private static final int LIST = 2;
@@ -15,6 +16,7 @@ public final class InsideTest extends Due {
 
     public static void main(String[] args) throws ReflectiveOperationException {
         rowOf40();
+        thirteenOfOneSide();
         variable20();
         variable21();
         end();
@@ -41,6 +43,19 @@ public final class InsideTest extends Due {
             Object remainder = inside(judge, "remainder");
             dueText("the most in one row, " + text, "" + inside(remainder, "mostInRow"), "40");
             dueText("fewer than 300, " + text, "" + ((Integer) inside(remainder, "count") < 300), "true");
+        }
+    }
+
+    static void thirteenOfOneSide() throws ReflectiveOperationException {
+        says("one of more than 12 PARTS of a side or 12 CLAIMS");
+        String[] rows = {"left", "right", "claims"};
+        for (String row : rows) {
+            Object sequent = newSequent();
+            for (int i = 1; i <= 14; i++) {
+                add(inside(sequent, row), 0, 1, 2, 0);
+                Object big = method(sequent, "isTooBig").invoke(sequent);
+                dueText(i + " of " + row, "" + big, "" + (i > 12));
+            }
         }
     }
 

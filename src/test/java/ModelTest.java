@@ -233,6 +233,9 @@ final class Texts {
         "tree(e)*tree(d)*tree(c)*tree(b)*tree(a)*e!=0*d!=0*0!=a*a!=d*0!=c*b!=0"
                 + "|-e->a,a*ls(b,a)*c->a,d*a->d,e*ls(d,b)*a!=d*0=c",
         "c->b,b*e->d,b*a->c,d*d->c,d*b->c,a*0!=e*d!=e*d!=a*c!=e*c!=a*e!=b|-ls(a,d)*ls(d,0)*tree(e)*ls(a,d)*ls(c,0)*d!=e",
+        "ls(b,0)*ls(e,d)*ls(d,c)*c->a,e*ls(b,c)*0!=e|-ls(e,b)*b->d,0",
+        "c->0,e*ls(d,c)*ls(e,d)*tree(d)|-ls(e,0)*a=a*b=b*ls(a,a)*tree(0)",
+        "a->e*d->e,b*ls(b,e)*tree(c)*ls(c,0)*e!=b|-ls(b,a)*ls(c,0)*tree(c)*a=a*e=e",
         "ls(d,c)*ls(a,0)*ls(b,c)*e->c,d*ls(c,b)*d!=c*b!=c*0!=a"
                 + "|-tree(b)*tree(e)*ls(d,a)*ls(b,a)*ls(a,b)*e!=d*c=a*c=a*a!=a*e!=b*a!=a"};
 

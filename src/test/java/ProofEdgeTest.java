@@ -22,6 +22,7 @@ public final class ProofEdgeTest extends Due {
         knownToDiffer();
         voidToTheLeft();
         voidComesFirst();
+        readyInOrder();
         readyToTheLeft();
         readyToTheRight();
         readyDiffers();
@@ -138,7 +139,22 @@ public final class ProofEdgeTest extends Due {
         dueSequent("ls(0,a)*a->b|-ls(c,c)", 0, "ls(0,0)*0->b |- ls(c,c) 0 0");
         dueSequent("ls(a,b)*a->c*b->d*ls(e,e)|-ls(a,a)", 0, "ls(a,a)*a->c*a->d |- ls(a,a) 0 0");
         dueSequent("tree(a)*tree(a)*a!=0|-tree(0)", 0, "tree(0)*tree(0) |- tree(0) 0 1");
+        dueSequent("a=b*b!=c*d!=d|-emp", 0, " |-  0 2");
         due("the greatest of one that is void", () -> of("ls(e,e)*d!=d|-emp").proof(3), 5);
+        due("the greatest to the right of it", () -> of("0->a|-d->0").proof(3), 4);
+    }
+
+    /** What is VOID in the end tells what was done ahead of it, and what was not. */
+    static void readyInOrder() {
+        says("READY it is made by the first of these that can be done, again and again");
+        dueSequent("ls(b,b)*ls(0,a)*a->c|-emp", 0, "ls(0,0)*0->c |-  0 0");
+        dueSequent("ls(b,c)*b->d*ls(0,a)*a->e|-emp", 0, "ls(b,c)*b->d*ls(0,0)*0->e |-  0 0");
+        dueSequent("tree(a)*tree(a)*a!=0*ls(b,c)*b->d|-emp", 0, "tree(0)*tree(0)*b->d |-  0 1");
+        dueSequent("tree(a)*tree(a)*a!=0|-ls(c,c)*d=d", 0, "tree(0)*tree(0) |- ls(c,c) 1 1");
+        dueSequent("ls(0,a)*ls(0,b)*a->0*b->0|-emp", 0, "ls(0,0)*ls(0,b)*0->0*b->0 |-  0 0");
+        dueSequent("ls(a,c)*ls(b,d)*a->0*b->0*c->0|-emp", 0, "ls(a,a)*ls(b,d)*a->0*b->0*a->0 |-  0 0");
+        dueSequent("ls(b,d)*ls(a,c)*a->0*b->0*c->0|-emp", 0, "ls(a,a)*a->0*b->0*a->0 |-  0 0");
+        dueSequent("tree(b)*tree(a)*tree(a)*tree(b)*b!=0|-emp", 0, "tree(0)*tree(a)*tree(a)*tree(0) |-  0 1");
     }
 
     static void readyToTheLeft() {
@@ -369,8 +385,36 @@ public final class ProofEdgeTest extends Due {
             due("no cycle at " + k, () -> judge.sequent(number, 6), NONE);
         }
         due("alike to the first", () -> judge.sequent(4, 6), 0);
+        otherKind();
+        notOneByOne();
+        byThirdNumbers();
         HeapJudge three = of("ls(a,b)*ls(b,c)*ls(c,0)|-ls(a,0)");
         dueText("three lists", steps(three), "77325151");
+    }
+
+    /** Sequent 3 is as sequent 0, but that a CELL stands where a PAIR stood. */
+    static void otherKind() {
+        String text = "c->d,0*ls(d,0)*c!=0|-tree(c)";
+        dueSteps(text, "57289", 0);
+        dueSequent(text, 0, "c->d,0*ls(d,0) |- tree(c) 0 1");
+        dueSequent(text, 3, "d->6*ls(6,0) |- tree(d) 0 1");
+    }
+
+    /** Sequent 3 is as sequent 0, but that b would be told by both b and 6. */
+    static void notOneByOne() {
+        String text = "a->e*d->e,b*ls(b,e)*e!=b|-ls(b,a)";
+        dueSteps(text, "705789", 0);
+        dueSequent(text, 0, "a->e*d->e,b*ls(b,e) |- ls(b,a) 0 1");
+        dueSequent(text, 3, "a->e*d->e,b*ls(6,e) |- ls(6,a) 0 1");
+    }
+
+    /** Sequent 10 is ALIKE to 5 by e told by e, which stands as z of a PAIR alone and in DIFFERS. */
+    static void byThirdNumbers() {
+        String text = "c->0,e*ls(d,c)*ls(e,d)*tree(d)|-ls(e,0)";
+        dueSteps(text, "77005770051", 1);
+        dueSequent(text, 5, "c->0,e*ls(d,c)*ls(6,d)*tree(d) |- ls(6,0) 0 1");
+        dueSequent(text, 10, "c->0,e*ls(d,c)*ls(7,d)*tree(d) |- ls(7,0) 0 1");
+        due("alike to", () -> of(text).sequent(10, 6), 5);
     }
 
     static void waysInOrder() {
@@ -559,6 +603,7 @@ public final class ProofEdgeTest extends Due {
         due("a variable of a claim", () -> of("emp|-a=e").proof(3), 5);
         due("a variable of differs", () -> of("e!=a*ls(a,0)|-e=b").proof(3), 5);
         due("a variable as z", () -> of("a->b,e|-emp").proof(3), 5);
+        due("a variable to the right", () -> of("emp|-e->0").proof(3), 5);
         due("the greatest as told", () -> of("a=e*e->d|-emp").proof(3), 4);
     }
 

@@ -13,6 +13,7 @@ public final class TextEdgeTest extends Due {
         mostClaims();
         longestText();
         sideOfNothing();
+        variableMissing();
         everyByteAsVariable();
         everyByteAsSign();
         blankBetween();
@@ -122,6 +123,33 @@ public final class TextEdgeTest extends Due {
         dueRead("tree()|-emp", -9, 5);
         dueRead("a|-emp", -9, 1);
         dueRead("a=b=c|-emp", -9, 3);
+    }
+
+    /** What is behind the missing VARIABLE could stand there without it. */
+    static void variableMissing() {
+        says("ITEM: V \"->\" V [ \",\" V ] | \"ls\" \"(\" V \",\" V \")\" | \"tree\" \"(\" V \")\" | V \"=\" V | V \"!=\" V.");
+        dueRead("a->|-emp", -9, 3);
+        dueRead("a->*b->c|-emp", -9, 3);
+        dueRead("a->,b|-emp", -9, 3);
+        dueRead("a->b,|-emp", -9, 5);
+        dueRead("a->b,*b->c|-emp", -9, 5);
+        dueRead("a=|-emp", -9, 2);
+        dueRead("a=*b=c|-emp", -9, 2);
+        dueRead("a!=|-emp", -9, 3);
+        dueRead("ls(,b)|-emp", -9, 3);
+        dueRead("ls(a,)|-emp", -9, 5);
+        dueRead("ls(ab)|-emp", -9, 3);
+        dueRead("ls(a,b|-emp", -9, 6);
+        dueRead("lsa,b)|-emp", -9, 0);
+        dueRead("ls a,b)|-emp", -9, 3);
+        dueRead("tree()|-emp", -9, 5);
+        dueRead("tree(a|-emp", -9, 6);
+        dueRead("tree a)|-emp", -9, 5);
+        dueRead("->b|-emp", -9, 0);
+        dueRead("=b|-emp", -9, 0);
+        dueRead("(a,b)|-emp", -9, 0);
+        dueRead("emp|-a->", -9, 8);
+        dueRead("emp|-a->b,", -9, 10);
     }
 
     /** A byte at a place where only a VARIABLE can stand. */
